@@ -83,12 +83,12 @@ public final class Crossbarry {
     /** Tells the next layer. */
     public int next(int layer, int next) throws IndexOutOfBoundsException, IllegalArgumentException {
         Layer told = layerAt(layer);
-        Layer behind = next == NONE ? null : layerAt(next);
-        if (behind != null && !told.canGoOnTo(behind)) {
+        Layer nextTold = next == NONE ? null : layerAt(next);
+        if (nextTold != null && !told.canGoOnTo(nextTold)) {
             throw new IllegalArgumentException("no chain can go on there");
         }
-        int before = told.behind == null ? NONE : told.behind.number;
-        told.behind = behind;
+        int before = told.nextLayer == null ? NONE : told.nextLayer.number;
+        told.nextLayer = nextTold;
         return before;
     }
 
@@ -304,7 +304,7 @@ public final class Crossbarry {
     /** Runs a vector from a layer on. */
     public long run(int layer, long vector) throws IndexOutOfBoundsException, IllegalStateException {
         long passed = vector;
-        for (Layer asked = layerAt(layer); asked != null; asked = asked.behind) {
+        for (Layer asked = layerAt(layer); asked != null; asked = asked.nextLayer) {
             passed = vectorFrom(asked, groundOf(asked), passed);
         }
         return passed;
@@ -313,7 +313,7 @@ public final class Crossbarry {
     /** Returns what would be the result with ideal answers, wherever layers are placed. */
     public long runIdeal(int layer, long vector) throws IndexOutOfBoundsException {
         long passed = vector;
-        for (Layer asked = layerAt(layer); asked != null; asked = asked.behind) {
+        for (Layer asked = layerAt(layer); asked != null; asked = asked.nextLayer) {
             passed = vectorFrom(asked, null, passed);
         }
         return passed;
@@ -428,7 +428,7 @@ public final class Crossbarry {
 
     private void tellPipeline(Layer first) {
         pipeline.clear();
-        for (Layer layer = first; layer != null; layer = layer.behind) {
+        for (Layer layer = first; layer != null; layer = layer.nextLayer) {
             pipeline.add(layer.cyclesOn(groundOf(layer)));
         }
     }
@@ -540,7 +540,8 @@ public final class Crossbarry {
         final int[] weights = new int[INPUTS * OUTPUTS];
         final int[] rows = new int[INPUTS];
         int shiftBy = 0;
-        Layer behind = null;
+        Layer nextLayer = null;
+        /** The tile that it is placed on; null without, and then its rows tell nothing. */
         Tile ground = null;
 
         Layer(int number, int inputs, int outputs) {

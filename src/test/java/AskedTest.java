@@ -8,6 +8,7 @@ public final class AskedTest {
         promise19RowOf();
         promise20TileOf();
         promises21And22Misfits();
+        promises21And22EachRowFitsOneWeight();
         promise22MoreThanFourInputs();
         promise23IsTrue();
         promise24AnswerBitByBit();
@@ -18,6 +19,8 @@ public final class AskedTest {
         promise25Ideal();
         promise26Bound();
         promise26BoundsWithOffsets();
+        promise26BoundsOfSteps();
+        promise26BoundsOfTheLargestLayer();
         promise26Refused();
         promise31Wear();
         promise32Share();
@@ -129,6 +132,25 @@ public final class AskedTest {
         Check.index("no tile", () -> x.misfitsAnew(1, 6));
         Check.index("no tile", () -> x.misfitsAnew(1, -1));
         Check.due("asking changes nothing", x.rowOf(0, 7), 7);
+    }
+
+    /** Column 0 of each row is known to be stuck at 1 more than the row. */
+    private static void promises21And22EachRowFitsOneWeight() {
+        int[][] weights = {{1}, {8}, {8, 1}, {3, 2, 1}, {8, 7, 6, 5}, {1, 8, 2, 7}, {4, 3, 8, 1}, {9, 5, 5, 10}};
+        int[] due = {0, 0, 0, 0, 0, 0, 0, 3};
+        for (int k = 0; k < weights.length; k++) {
+            Crossbarry y = withWeights(0, 0, 0, 0, 0, 0, 0, 0);
+            for (int row = 0; row < 8; row++) {
+                y.stick(0, row, 0, row + 1);
+            }
+            Check.due("each is found", y.place(0, 0), 8);
+            y.layer(weights[k].length, 1);
+            for (int input = 0; input < weights[k].length; input++) {
+                y.weight(1, input, 0, weights[k][input]);
+            }
+            Check.due("found anew", y.misfitsAnew(1, 0), due[k]);
+            Check.due("misfits", y.misfits(1, 0), due[k]);
+        }
     }
 
     private static void promise22MoreThanFourInputs() {
@@ -290,6 +312,37 @@ public final class AskedTest {
         Check.due("within", x.answer(0, 255, 0) - x.ideal(0, 255, 0), 255 * (3 - 32));
         x.calibrate(0, true);
         Check.due("calibrated", x.bound(0, 0, false), 0);
+    }
+
+    private static void promise26BoundsOfSteps() {
+        Crossbarry x = withWeights(1);
+        x.place(0, 0);
+        x.converter(0, 2, 127);
+        Check.due("1 less at the need", x.bound(0, 0, false), -255);
+        Check.due("exact without a current", x.bound(0, 0, true), 0);
+        x.offset(0, 0, 1);
+        Check.due("exact without a current", x.bound(0, 0, false), 0);
+        Check.due("1 more at the need", x.bound(0, 0, true), 255);
+        x.weight(0, 0, 0, 2);
+        Check.due("exact at the need", x.bound(0, 0, false), 0);
+        Check.due("1 more between", x.bound(0, 0, true), 255);
+        x.converter(0, 3, 1);
+        Check.due("2 less between", x.bound(0, 0, false), -255);
+        Check.due("1 more at the need", x.bound(0, 0, true), 255);
+    }
+
+    private static void promise26BoundsOfTheLargestLayer() {
+        Crossbarry x = new Crossbarry();
+        x.layer(8, 4);
+        for (int input = 0; input < 8; input++) {
+            x.weight(0, input, 3, 255);
+        }
+        x.place(0, 5);
+        Check.due("a need of 120", x.bound(0, 3, false), 0);
+        x.converter(5, 1, 100);
+        Check.due("clipped", x.bound(0, 3, false), 255 * 17 * -20);
+        Check.due("clipped", x.bound(0, 3, true), 0);
+        Check.due("a need of 0", x.bound(0, 2, false), 0);
     }
 
     private static void promise26Refused() {

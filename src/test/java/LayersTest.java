@@ -186,8 +186,7 @@ public final class LayersTest {
         x.weight(1, 0, 0, 1);
         x.weight(1, 1, 0, 1);
         x.weight(1, 2, 0, 1);
-        Check.due("one input must misfit", x.misfits(1, 0), 1);
-        Check.due("so one write fails", x.place(1, 0), 1);
+        Check.due("one input must misfit", x.place(1, 0), 1);
         // Input 0 takes the lowest row although it misfits there, as 1 and 2 then fit.
         Check.due("row of input 0", x.rowOf(1, 0), 0);
         Check.due("row of input 1", x.rowOf(1, 1), 1);
