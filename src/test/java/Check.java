@@ -40,7 +40,7 @@ final class Check {
     }
 
     /** The class must be the very one: the machine's own exceptions are subclasses of these. */
-    private static void refused(String what, Class<?> due, Call call) {
+    static void refused(String what, Class<?> due, Call call) {
         String got = "nothing";
         try {
             call.make();

@@ -2,7 +2,6 @@ import java.lang.reflect.InvocationTargetException;
 import java.lang.reflect.Method;
 import java.util.ArrayList;
 import java.util.List;
-import java.util.Random;
 
 /** Long runs of drawn calls, each made on a new object of the class and on a model of the document. */
 public final class ModelTest {
@@ -26,14 +25,14 @@ public final class ModelTest {
     private static final List<String> KINDS = new ArrayList<>();
     private static final List<Integer> LOTS = new ArrayList<>();
 
-    private final Random random;
+    private long drawn;
     private final int tilesUsed;
     private final int wrongInHundred;
 
     private ModelTest(int seed) {
-        random = new Random(seed);
-        tilesUsed = 1 + random.nextInt(6);
-        wrongInHundred = random.nextInt(3);
+        drawn = seed;
+        tilesUsed = 1 + below(6);
+        wrongInHundred = below(3);
     }
 
     public static void main(String[] args) throws Exception {
@@ -65,9 +64,9 @@ public final class ModelTest {
     private void compare(int seed) throws Exception {
         Crossbarry real = new Crossbarry();
         Model model = new Model();
-        int first = 1 + random.nextInt(6);
-        for (int call = 1; call < CALLS; call++) {
-            int k = call <= first ? 0 : LOTS.get(random.nextInt(LOTS.size()));
+        int first = 1 + below(6);
+        for (int call = 1; call <= CALLS; call++) {
+            int k = call <= first ? 0 : LOTS.get(below(LOTS.size()));
             Object[] given = arguments(KINDS.get(k), REAL.get(k).getParameterTypes());
             String due = outcome(MODEL.get(k), model, given);
             String got = outcome(REAL.get(k), real, given);
@@ -92,56 +91,66 @@ public final class ModelTest {
         Object[] given = new Object[types.length];
         for (int k = 0; k < types.length; k++) {
             if (types[k] == boolean.class) {
-                given[k] = random.nextBoolean();
+                given[k] = below(2) == 0;
             } else if (types[k] == long.class) {
                 given[k] = vector();
             } else {
-                given[k] = random.nextInt(100) < wrongInHundred ? anyInt() : number(kinds.charAt(k));
+                given[k] = below(100) < wrongInHundred ? anyInt() : number(kinds.charAt(k));
             }
         }
         return given;
     }
 
     private long vector() {
-        long drawn = random.nextLong();
-        int how = random.nextInt(4);
-        return how == 0 ? drawn : how == 1 ? drawn & 0x0F0F0F0F0F0F0F0FL : how == 2 ? drawn & random.nextLong() : -1L;
+        long bits = anyLong();
+        int how = below(4);
+        return how == 0 ? bits : how == 1 ? bits & 0x0F0F0F0F0F0F0F0FL : how == 2 ? bits & anyLong() : -1L;
     }
 
     private int anyInt() {
         int[] edges = {Integer.MIN_VALUE, Integer.MAX_VALUE, -1, -2, 6, 8, 16, 256, 1 << 16, 1 << 20};
-        return random.nextBoolean() ? edges[random.nextInt(edges.length)] : random.nextInt();
+        return below(2) == 0 ? edges[below(edges.length)] : (int) anyLong();
     }
 
     private int number(char kind) {
         switch (kind) {
             case 'l': return within(0, 5);
             case 't': return within(0, tilesUsed - 1);
-            case 'i': return within(0, random.nextInt(8));
-            case 'o': return within(0, random.nextInt(4));
-            case 'w': return random.nextInt(4) == 0 ? 0 : random.nextInt(5) == 0 ? within(-300, 300) : within(-40, 40);
+            case 'i': return within(0, below(8));
+            case 'o': return within(0, below(4));
+            case 'w': return below(4) == 0 ? 0 : below(5) == 0 ? within(-300, 300) : within(-40, 40);
             case 'r': return within(0, 7);
-            case 'c': return random.nextBoolean() ? within(0, 3) : within(0, 15);
-            case 's': return random.nextBoolean() ? 0 : within(0, 16);
+            case 'c': return below(2) == 0 ? within(0, 3) : within(0, 15);
+            case 's': return below(2) == 0 ? 0 : within(0, 16);
             case 'I': return within(1, 8);
             case 'O': return within(1, 4);
-            case 'S': return random.nextBoolean() ? within(0, 21) : within(0, 6);
+            case 'S': return below(2) == 0 ? within(0, 21) : within(0, 6);
             case 'X': return within(0, 65535);
             case 'M': return within(1, 20);
-            case 'D': return random.nextBoolean() ? within(0, 5) : within(0, 1000);
-            case 'E': return random.nextInt(3) == 0 ? within(1, 40) : 1000;
-            case 'H': return random.nextInt(3) > 0 ? within(1, 10) : within(1, 10000);
+            case 'D': return below(2) == 0 ? within(0, 5) : within(0, 1000);
+            case 'E': return below(3) == 0 ? within(1, 40) : 1000;
+            case 'H': return below(3) > 0 ? within(1, 10) : within(1, 10000);
             case 'P': return within(1, 16);
             case 'T': return within(1, 127);
             case 'F': return within(-3, 3);
             case 'C': return 1 << within(0, 4);
             case 'W': return within(0, 4);
-            case 'N': return random.nextInt(8) == 0 ? within(1, 1000) : within(1, 12);
+            case 'N': return below(8) == 0 ? within(1, 1000) : within(1, 12);
             default: throw new IllegalArgumentException(String.valueOf(kind));
         }
     }
 
+    /** The same numbers in each run of the test. */
+    private long anyLong() {
+        drawn = drawn * 6364136223846793005L + 1442695040888963407L;
+        return (drawn ^ drawn >>> 29) * 0xBF58476D1CE4E5B9L;
+    }
+
+    private int below(int bound) {
+        return (int) Long.remainderUnsigned(anyLong() >>> 16, bound);
+    }
+
     private int within(int least, int greatest) {
-        return least + random.nextInt(greatest - least + 1);
+        return least + below(greatest - least + 1);
     }
 }
