@@ -6,7 +6,8 @@ final class Busy {
     /**
      * Layer 0 (2 inputs, 1 output) on tile 0, layer 1 (3 inputs, 2 outputs) on none, layer 2 (8 inputs,
      * 4 outputs) on tile 5, layer 3 (5 inputs, 3 outputs) on tile 2; the chain goes from 0 to 2. Weights have been
-     * told anew behind the placing, so that each further write shows. The hour is 3.
+     * told anew behind the placing, so that each further write shows; faults have been found by it, so that rows found
+     * anew would be others. The hour is 3.
      */
     static void machine(Crossbarry x) {
         x.layer(2, 1);
@@ -21,6 +22,7 @@ final class Busy {
             x.weight(2, input, input % 4, 255 - 16 * input);
             x.weight(3, input % 5, input % 3, -255 + 16 * input);
         }
+        x.weight(2, 0, 3, -0x90);
         x.shift(0, 3);
         x.shift(1, 20);
         x.shift(2, 1);
@@ -28,6 +30,8 @@ final class Busy {
         x.stick(5, 7, 15, 9);
         x.stick(3, 2, 4, 6);
         x.stick(2, 7, 12, 1);
+        x.stick(2, 0, 10, 1);
+        x.stick(0, 0, 3, 5);
         x.place(0, 0);
         x.place(2, 5);
         x.place(3, 2);

@@ -21,6 +21,7 @@ public final class CellTermsTest {
         ifItIsStuckItsState();
         dividedByTheDriftRoundedDown();
         but0AtLeast();
+        farMoreThanItsState();
         fromTheHourOfItsStateToNow();
         toTheLastHour();
         aWriteFirstTakesWhatItConducts();
@@ -239,6 +240,32 @@ public final class CellTermsTest {
         }
     }
 
+    /** "but 0 at least": also where what is lost is far more than any state. */
+    private static void farMoreThanItsState() {
+        Crossbarry x = placed(15);
+        x.drift(1);
+        for (int hour = 1; hour <= 250; hour++) {
+            x.pass(1);
+            Check.due("hour " + hour, x.cell(0, 0, 0, CONDUCTS), Math.max(0, 15 - hour));
+        }
+        Crossbarry y = placed(15);
+        y.drift(1);
+        passTo(y, 240);
+        for (int hour = 241; hour <= 480; hour++) {
+            y.pass(1);
+            Check.due("hour " + hour, y.cell(0, 0, 0, CONDUCTS), 0);
+        }
+        for (int power = 9; power < 20; power++) {
+            Crossbarry z = placed(15);
+            z.drift(1);
+            passTo(z, (1 << power) - 16);
+            for (int hour = 0; hour < 32; hour++) {
+                z.pass(1);
+                Check.due("about 2 to the power of " + power, z.cell(0, 0, 0, CONDUCTS), 0);
+            }
+        }
+    }
+
     /** "the hours from the hour of its state to now": with the drift that is told now. */
     private static void fromTheHourOfItsStateToNow() {
         Crossbarry x = new Crossbarry();
@@ -386,11 +413,11 @@ public final class CellTermsTest {
         x.layer(1, 1);
         x.stick(0, 0, 3, 1);
         x.place(0, 0);
-        for (int time = 1; time <= 50; time++) {
+        for (int time = 1; time <= 250; time++) {
             Check.due("its wear", x.cell(0, 0, 3, WEAR), 16 * time);
-            Check.due("all wear", x.wear(0), 16 * time);
             x.load(0);
         }
+        Check.due("all wear", x.wear(0), 16 * 251);
     }
 
     /**

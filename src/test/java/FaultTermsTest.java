@@ -221,6 +221,16 @@ public final class FaultTermsTest {
         }
         y.load(0);
         Check.due("and 8 pulses down, 15 pulses up", y.wear(0), 960 + 64 * 23);
+        Crossbarry z = new Crossbarry();
+        z.layer(8, 4);
+        for (int at = 0; at < 128; at++) {
+            z.stick(3, at / 16, at % 16, 15);
+        }
+        Check.due("all writes fail", z.place(0, 3), 128);
+        for (int time = 1; time <= 190; time++) {
+            Check.due("16 pulses for each cell and load", z.wear(3), 128L * 16 * time);
+            z.load(0);
+        }
     }
 
     /** "how many, as a float, divided by 128". */

@@ -11,6 +11,7 @@ public final class ToldTest {
         promise6Places();
         promise7Loads();
         promise8Lifts();
+        whatWasToldOfATileStays();
         promise9Sticks();
         promise10Spoils();
         promise11TellsTheDrift();
@@ -82,6 +83,33 @@ public final class ToldTest {
         Twins.changed("lift", Busy::machine, x -> x.lift(0), Twins.PLACED, Twins.FREE);
         Twins.changed("lift", Busy::machine, x -> x.lift(2), Twins.PLACED, Twins.FREE);
         Twins.changed("lift", Busy::machine, x -> x.lift(3), Twins.PLACED, Twins.FREE);
+    }
+
+    /** Layers come and go; how their tile converts, and what was told of them, stays. */
+    private static void whatWasToldOfATileStays() {
+        Twins.Calls told = x -> {
+            x.layer(2, 4);
+            x.layer(4, 1);
+            x.weight(0, 1, 3, 0x77);
+            x.shift(0, 7);
+            x.next(0, 1);
+            for (int column = 0; column < 16; column++) {
+                x.offset(4, column, column % 3 - 3);
+            }
+            x.converter(4, 5, 6);
+            x.calibrate(4, true);
+            x.converters(4, 2);
+        };
+        Twins.changed("place", told, x -> x.place(0, 4), Twins.cells(4, 0), Twins.PLACED, Twins.FREE);
+        Twins.Calls placed = x -> {
+            told.on(x);
+            x.place(0, 4);
+            x.weight(0, 0, 0, -1);
+        };
+        Twins.changed("load", placed, x -> x.load(0), Twins.cells(4, 0));
+        Twins.changed("lift", placed, x -> x.lift(0), Twins.PLACED, Twins.FREE);
+        Twins.changed("stick", placed, x -> x.stick(4, 0, 0, 1), Twins.cells(4, 0));
+        Twins.changed("spoil", placed, x -> x.spoil(4, 0, 1), Twins.cells(4, 0));
     }
 
     private static void promise9Sticks() {
